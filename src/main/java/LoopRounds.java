@@ -684,8 +684,7 @@ public final class LoopRounds {
         }
 
         int loopsIn(int r) {
-            Round round = at(r);
-            return round == null ? ring : round.loopCount;
+            return r < 1 || r > count ? ring : rounds[r - 1].loopCount;
         }
 
         int loopsInAll() {

@@ -28,6 +28,15 @@ public final class ComingTest {
         Due.is("i ahead of i and c", x.fewest(36, 0), 1);
         Due.is("i and c", x.fewest(36, 1), 13);
         Due.is("the piece is as it was", x.many(0), 0);
+        LoopRounds one = Due.made("r3;p1dk");
+        Due.is("from one", one.fewest(1, -1), 0);
+        Due.is("from one to three", one.fewest(3, 0), 13);
+        Due.is("from one to 48", one.fewest(48, -1), 5);
+        LoopRounds sixty = Due.made("r6;p1iccc;p1i");
+        Due.is("from sixty", sixty.fewest(60, -1), 0);
+        Due.is("from sixty to thirty", sixty.fewest(30, 0), 2);
+        Due.is("from sixty to one", sixty.fewest(1, -1), -9);
+        Due.is("from sixty to five", sixty.fewest(5, -1), 3);
         LoopRounds full = Due.made("r6;p1s;p1s;p1s;p1s;p1s;p1s");
         Due.is("however many rounds there are", full.fewest(1, -1), 2);
     }
@@ -119,6 +128,13 @@ public final class ComingTest {
         Due.is("from the ring", x.ways(0, 12), 0);
         Due.is("put on", Due.puton(x, 0, 1, 1), 12);
         Due.is("from twelve again", x.ways(2, 12), 115);
+        LoopRounds one = Due.made("r3;p1dk");
+        Due.is("from one", one.ways(0, 1), 1);
+        Due.is("from one, kc and ck", one.ways(1, 1), counted(1, 1, 1));
+        LoopRounds sixty = Due.made("r6;p1iccc;p1i");
+        Due.is("from sixty", sixty.ways(0, 60), 1);
+        Due.is("from sixty to thirty", sixty.ways(1, 30), counted(60, 1, 30));
+        Due.is("from sixty to sixty", sixty.ways(3, 60), counted(60, 3, 60));
         LoopRounds none = new LoopRounds();
         Due.is("no piece", none.ways(0, 60), LoopRounds.LOST);
         Due.unchanging(x, "n -1", y -> y.ways(-1, 12), LoopRounds.LOST);

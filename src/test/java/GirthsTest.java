@@ -174,6 +174,14 @@ public final class GirthsTest {
         all.ravel(3);
         Due.is("the ring alone", all.odds(3, 0), 1);
         Due.is("the ring alone", all.odds(3, 1), 8);
+        LoopRounds full = Due.made("r6;p1iccc;p1i");
+        Due.is("four of sixty", full.odds(5, 0), 1);
+        Due.is("four of sixty", full.odds(5, 1), 15);
+        LoopRounds less = Due.made("r6;p1i");
+        less.ravel(1);
+        Due.is("fewer than there were", Due.puton(less, 0, 1, 0), 6);
+        Due.is("one of six", less.odds(5, 0) * 100 + less.odds(5, 1), 106);
+        Due.is("one of six", less.odds(3, 0) * 100 + less.odds(3, 1), 106);
         Due.unchanging(x, "loop 6", y -> y.odds(6, 0), LoopRounds.LOST);
         Due.unchanging(x, "loop -1", y -> y.odds(-1, 0), LoopRounds.LOST);
         Due.unchanging(x, "which 2", y -> y.odds(0, 2), LoopRounds.LOST);

@@ -258,6 +258,17 @@ public final class PieceTest {
         Due.is("its roots: c had none", full.loop(2, 59, 4), 0);
         Due.is("roots of the 51st", full.loop(2, 50, 4), 32);
         Due.is("by again and again", full.loop(1, 26, 0), 1);
+        Due.is("upon sixty", Due.puton(full, 0, 1, 2), 30);
+        Due.is("in the sixtieth", full.loop(3, 29, 2), 59);
+        Due.is("the sixtieth has one above", full.loop(2, 59, 3), 1);
+        LoopRounds six = Due.made("r3;p1s;p1s;p1s;p1s;p1s;p1i");
+        Due.is("the sixth round's last", six.loop(6, 5, 1), 2);
+        Due.is("its roots", six.loop(6, 5, 4), 4);
+        Due.is("above the fifth's", six.loop(5, 2, 3), 2);
+        Due.is("ravel", six.ravel(1), 5);
+        Due.is("where a loop with roots was", Due.puton(six, 0, 1, 0, 3), 6);
+        Due.is("one has none", six.loop(6, 5, 4), 0);
+        Due.is("one has none", six.loop(6, 1, 4), 0);
     }
 
     private static void promise7Spun() {

@@ -70,6 +70,7 @@ public final class RoundsTest {
         Due.faulting(x, "c alone", y -> y.puton(0, 1, 1, 1, 2, 1), -3, 0);
         Due.faulting(x, "k alone", y -> y.puton(0, 1, 1, 1, 4, 1), -3, 0);
         for (int r = 2; r <= 6; r++) {
+            Due.raise(x, 4);
             Due.is("s", x.puton(0, 1, 1, 1, 0, 1), 12);
             Due.is("taken: no fault", x.fault(), 0);
         }

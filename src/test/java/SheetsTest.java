@@ -39,7 +39,9 @@ public final class SheetsTest {
         Due.faulting(x, "-1 cells", y -> y.sheet(1, 0, -1), -14, 4);
         Due.faulting(x, "far fewer", y -> y.sheet(1, 2, Integer.MIN_VALUE), -14, 4);
         Due.is("its row is as it was", x.cell(1, 1, 1), 6);
+        Due.raise(x, 4);
         Due.is("a shorter row", x.sheet(1, 2, 1), 1);
+        Due.is("sheet: no fault", x.fault(), 0);
         Due.is("no more of it", x.cell(1, 1, 2), LOST);
     }
 
