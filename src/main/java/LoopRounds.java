@@ -253,7 +253,9 @@ public final class LoopRounds {
         if (v < 0 || v > MOST_GIRTH) {
             return OUTSIDE;
         }
-        return readings.add(r, v) ? readings.count : FULL;
+        // Its number is how many there were ahead of it: the first is 0.
+        int number = readings.count;
+        return readings.add(r, v) ? number : FULL;
     }
 
     public int back(int n) {

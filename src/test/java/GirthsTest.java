@@ -18,15 +18,22 @@ public final class GirthsTest {
         Due.unchanging(x, "round -1", y -> y.reading(-1, 0), -1);
         Due.unchanging(x, "v -1", y -> y.reading(1, -1), -2);
         Due.unchanging(x, "v 1081", y -> y.reading(1, 1081), -2);
-        for (int number = 1; number <= 8; number++) {
-            Due.is("reading " + number, x.reading(1, number == 3 ? 0 : 1080), number);
-            Due.is("many", x.many(3), number);
+        for (int number = 0; number < 8; number++) {
+            Due.is("reading " + number, x.reading(1, number == 2 ? 0 : 1080), number);
+            Due.is("many", x.many(3), number + 1);
         }
         Due.unchanging(x, "a ninth", y -> y.reading(1, 12), -4);
         Due.unchanging(x, "outside ahead of full", y -> y.reading(1, 1081), -2);
         Due.unchanging(x, "unknown ahead of full", y -> y.reading(3, 12), -1);
         Due.is("back", x.back(3), 5);
-        Due.is("again", x.reading(2, 5), 6);
+        Due.is("again", x.reading(2, 5), 5);
+        Due.is("all taken back", x.back(6), 0);
+        Due.is("the first again", x.reading(1, 1080), 0);
+        Due.is("the second again", x.reading(1, 1080), 1);
+        Due.is("a piece anew", Due.piece(x, "r6;p1i"), 1);
+        Due.is("the first of a piece anew", x.reading(1, 0), 0);
+        Due.is("it is ravelled", x.ravel(1), 0);
+        Due.is("of a ravelled one", x.reading(1, 0), -1);
         Due.is("no piece", new LoopRounds().reading(1, 0), -1);
     }
 

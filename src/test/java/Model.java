@@ -566,7 +566,7 @@ public final class Model {
             return -4;
         }
         readings.add(new int[] {r, v});
-        return readings.size();
+        return readings.size() - 1;
     }
 
     public int back(int n) {

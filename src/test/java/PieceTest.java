@@ -89,7 +89,7 @@ public final class PieceTest {
         Due.is("six rounds of five", Due.piece(x, "r5;p1sssss;b9kiksi;t9sssss;p5iskds;b1cccsc;t2sssss"), -204);
         Due.is("six rounds of five", Due.piece(x, "r5;p1sssss;b9kiksi;t9sssss;p5iskss;b1kiiks;t2sssss"), 6);
         Due.is("six", x.many(0), 6);
-        Due.is("reading", x.reading(1, 5) > 0 ? 1 : 0, 1);
+        Due.is("reading", x.reading(1, 5), 0);
         Due.is("tell", x.tell(1), 1);
         int trace = x.trace();
         Due.is("a fault keeps readings", Due.piece(x, "r9"), -101);
