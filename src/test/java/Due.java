@@ -63,56 +63,20 @@ final class Due {
         return x.day(2, 1, 0, acts.length, what);
     }
 
-    /** All that can be asked of the state without changing it, but SHEETS and fault(). */
-    static String state(LoopRounds x) {
-        StringBuilder all = new StringBuilder();
-        for (int what = 0; what < 4; what++) {
-            all.append(x.many(what)).append(' ');
-        }
-        all.append(x.trace()).append(" rings ").append(x.rings());
-        for (int r = 0; r <= 6; r++) {
-            all.append("; ").append(x.loops(r)).append(' ').append(x.bare(r)).append(' ').append(x.kinds(r));
-            for (int what = 0; what < 9; what++) {
-                all.append(' ').append(x.ofRound(r, what));
-            }
-            for (int i = 0; i < 5; i++) {
-                all.append(' ').append(x.sign(r, i)).append('/').append(x.signings(r, i));
-            }
-            for (int k = 0; k < x.loops(r); k++) {
-                for (int what = 0; what < 5; what++) {
-                    all.append(' ').append(x.loop(r, k, what));
-                }
-            }
-        }
-        return all.toString();
-    }
-
-    static String cells(LoopRounds x) {
-        StringBuilder all = new StringBuilder();
-        for (int k = 0; k < 4; k++) {
-            for (int lane = 0; lane < 3; lane++) {
-                for (int i = 0; i < 60; i++) {
-                    all.append(x.cell(k, i, lane)).append(' ');
-                }
-            }
-        }
-        return all.toString();
-    }
-
-    /** A call that answers so and changes nothing that can be asked. */
     interface Call {
         long on(LoopRounds x);
     }
 
+    /**
+     * A call that answers so, and so once more. That it changes nothing else is asked in the Edges tests, of two objects:
+     * one could not be asked for everything within its 512 calls.
+     */
     static void unchanging(LoopRounds x, String name, Call call, long want) {
-        String state = state(x);
-        String cells = cells(x);
         is(name, call.on(x), want);
-        holds(name + " changes no piece", state.equals(state(x)));
-        holds(name + " changes no sheet", cells.equals(cells(x)));
+        is(name + " once more", call.on(x), want);
     }
 
-    /** A call that names FAULTS, is refused or faulted, changes nothing, and leaves this in fault(). */
+    /** A call that names FAULTS, is refused or faulted, and leaves this in fault(). */
     static void faulting(LoopRounds x, String name, Call call, long want, int fault) {
         unchanging(x, name, call, want);
         raise(x, fault == 4 ? 3 : 4);

@@ -71,21 +71,26 @@ final class Edge {
                 read(row.strip(), calls);
             }
         }
-        Due.holds(sentence + ": has at most 256 calls", calls.size() <= MOST_CALLS / 2);
+        Due.holds(sentence + ": has few enough calls", calls.size() <= MOST_CALLS / 3);
         LoopRounds x = new LoopRounds();
         for (int k = 0; k < calls.size(); k++) {
             Call call = calls.get(k);
             Due.is(sentence + ": call " + k + ", " + call, answer(x, call), call.want);
         }
-        faultsAreTold(sentence, calls);
+        faultsAreTold(sentence, calls, false);
+        faultsAreTold(sentence, calls, true);
         nothingElseChanged(sentence, calls);
     }
 
-    private static void faultsAreTold(String sentence, List<Call> calls) {
+    /** Once as the calls are, and once with a FAULT ahead of each, that must not be left standing by those that name one. */
+    private static void faultsAreTold(String sentence, List<Call> calls, boolean raised) {
         LoopRounds x = new LoopRounds();
         int fault = 0;
         for (int k = 0; k < calls.size(); k++) {
             Call call = calls.get(k);
+            if (raised) {
+                fault = -10 - x.sheet(0, 0, -1);
+            }
             answer(x, call);
             fault = NAME_FAULTS.contains(call.name) ? call.fault : fault;
             Due.is(sentence + ": fault() behind call " + k + ", " + call, x.fault(), fault);
@@ -148,7 +153,8 @@ final class Edge {
     }
 
     private static int[] numbers(String row) {
-        return Arrays.stream(row.strip().split("\\s+")).filter(number -> !number.isEmpty()).mapToInt(number -> (int) number(number)).toArray();
+        String bare = row.strip();
+        return bare.isEmpty() ? new int[0] : Arrays.stream(bare.split("\\s+")).mapToInt(told -> (int) number(told)).toArray();
     }
 
     private static long number(String told) {
